@@ -59,10 +59,9 @@ public final class SectionFibres {
         if (!isKind(kind) || !isToldStrain(strain) || !within(stress, -MOST_STRESS, MOST_STRESS)) {
             return false;
         }
-        if (!section.kinds.takesPoint(kind, strain, stress)) {
+        if (!section.kinds.addPoint(kind, strain, stress)) {
             return false;
         }
-        section.kinds.addPoint(kind, strain, stress);
         planeAtHand = false;
         return true;
     }
@@ -258,33 +257,37 @@ public final class SectionFibres {
         return within(step, 1, MOST_BEND_STEP);
     }
 
-    /** One number times another by a third, cut off towards 0; all divisions stand here, so that one test guards them. */
+    /**
+     * One number times another by a third, cut off towards 0. All divisions by what was told stand
+     * here, so that one test guards them.
+     */
     private static int share(long number, long times, long by) {
         return by == 0 ? 0 : (int) (number * times / by);
     }
 
     /** The rows, the creep and the shrinking of the kinds; who calls has tested the kind. */
     private static final class Kinds {
-        // The points of kind 0, then those of kind 1, ..: one array each is fewer objects than one a kind.
+        // The points of kind 0, then those of kind 1, ..: fewer objects than an array for each kind.
         private final int[] strains = new int[KINDS * MOST_POINTS];
         private final int[] stresses = new int[KINDS * MOST_POINTS];
         private final int[] points = new int[KINDS];
         private final int[] creep = new int[KINDS];
         private final int[] shrunk = new int[KINDS];
 
-        private boolean takesPoint(int kind, int strain, int stress) {
-            if (points[kind] == 0) {
-                return true;
+        /** False, and nothing is added, if the row is full or the point would lead it back or down. */
+        private boolean addPoint(int kind, int strain, int stress) {
+            int held = points[kind];
+            if (held >= MOST_POINTS) {
+                return false;
             }
-            int last = kind * MOST_POINTS + points[kind] - 1;
-            return points[kind] < MOST_POINTS && strain > strains[last] && stress >= stresses[last];
-        }
-
-        private void addPoint(int kind, int strain, int stress) {
-            int next = kind * MOST_POINTS + points[kind];
+            int next = kind * MOST_POINTS + held;
+            if (held > 0 && (strain <= strains[next - 1] || stress < stresses[next - 1])) {
+                return false;
+            }
             strains[next] = strain;
             stresses[next] = stress;
-            points[kind]++;
+            points[kind] = held + 1;
+            return true;
         }
 
         private int stressAt(int kind, int strain) {
@@ -391,7 +394,7 @@ public final class SectionFibres {
             return BAD;
         }
 
-        /** The least E that carries the force, or NONE_E; halving finds it as FORCE never falls while E rises. */
+        /** The least E, or NONE_E; halving finds it, as FORCE never falls while E rises. */
         private int balanceOf(long force, int k) {
             int low = -MOST_OF_PLANE;
             int high = MOST_OF_PLANE;
