@@ -1,8 +1,8 @@
 /** Each promise with answers worked out by hand: ordinary inputs, the edges, and wrong inputs. */
 final class PromisesTest {
-    private static final int BAD = -1;
-    private static final int NONE_E = -1_000_000;
-    private static final long NONE = -4_611_686_018_427_387_904L;
+    private static final int BAD = Due.BAD;
+    private static final int NONE_E = Due.NONE_E;
+    private static final long NONE = Due.NONE;
     private static final int MIN = Integer.MIN_VALUE;
     private static final int MAX = Integer.MAX_VALUE;
 
@@ -32,29 +32,6 @@ final class PromisesTest {
         DUE.end("PromisesTest");
     }
 
-    /** Kind 0 has a stress as high as its strain, from - reach to reach. */
-    private static SectionFibres straight(int reach) {
-        SectionFibres x = new SectionFibres();
-        x.point(0, -reach, -reach);
-        x.point(0, reach, reach);
-        return x;
-    }
-
-    /** Fibres of 1 at - 1,000 and 1,000: FORCE is 2 E, MOMENT 2,000 K as long as no row ends. */
-    private static SectionFibres pair(int reach) {
-        SectionFibres x = straight(reach);
-        x.fibre(1, -1_000, 0);
-        x.fibre(1, 1_000, 0);
-        return x;
-    }
-
-    /** One fibre of 10 in the middle: FORCE is 10 E. */
-    private static SectionFibres single() {
-        SectionFibres x = straight(30_000);
-        x.fibre(10, 0, 0);
-        return x;
-    }
-
     private static void promise1New() {
         SectionFibres x = new SectionFibres();
         DUE.is("1 BAD", SectionFibres.BAD, BAD);
@@ -72,7 +49,7 @@ final class PromisesTest {
         DUE.is("1 of(5, 5, 0)", x.of(5, 5, 0), 0);
         DUE.is("1 of(5, 5, 1)", x.of(5, 5, 1), 0);
         DUE.throwsIndex("1 in(0, 0)", () -> x.in(0, 0));
-        SectionFibres other = single();
+        SectionFibres other = Sections.single();
         DUE.is("1 another object's fibre", x.count(0), 0);
         DUE.is("1 the other object's fibre", other.count(0), 1);
     }
@@ -126,7 +103,7 @@ final class PromisesTest {
     }
 
     private static void promise4Born() {
-        SectionFibres x = single();
+        SectionFibres x = Sections.single();
         x.fibre(1, 0, 0);
         DUE.is("4 born(-1, 0)", x.born(-1, 0), false);
         DUE.is("4 born(2, 0)", x.born(2, 0), false);
@@ -145,7 +122,7 @@ final class PromisesTest {
     }
 
     private static void promise5Creeps() {
-        SectionFibres x = single();
+        SectionFibres x = Sections.single();
         DUE.is("5 creeps(-1, 0)", x.creeps(-1, 0), false);
         DUE.is("5 creeps(4, 0)", x.creeps(4, 0), false);
         DUE.is("5 creeps(MIN, 0)", x.creeps(MIN, 0), false);
@@ -168,7 +145,7 @@ final class PromisesTest {
     }
 
     private static void promise6Shrinks() {
-        SectionFibres x = single();
+        SectionFibres x = Sections.single();
         DUE.is("6 shrinks(-1, 0)", x.shrinks(-1, 0), false);
         DUE.is("6 shrinks(4, 0)", x.shrinks(4, 0), false);
         DUE.is("6 shrinks(MIN, 0)", x.shrinks(MIN, 0), false);
@@ -188,7 +165,7 @@ final class PromisesTest {
     }
 
     private static void promise7Keeps() {
-        SectionFibres x = single();
+        SectionFibres x = Sections.single();
         DUE.is("7 keeps(-1, 0)", x.keeps(-1, 0), false);
         DUE.is("7 keeps(1, 0)", x.keeps(1, 0), false);
         DUE.is("7 keeps(MIN, 0)", x.keeps(MIN, 0), false);
@@ -238,7 +215,7 @@ final class PromisesTest {
     }
 
     private static void promise9Of() {
-        SectionFibres x = straight(30_000);
+        SectionFibres x = Sections.straight(30_000);
         x.fibre(2, -1, 0);
         DUE.is("9 of(0, 1, 0) rounded down", x.of(0, 1, 0), -2);
         DUE.is("9 of(0, 1, 1) rounded down", x.of(0, 1, 1), 2);
@@ -261,7 +238,7 @@ final class PromisesTest {
         }
         DUE.is("9 the highest FORCE", most.of(0, 0, 0), 4_000_000_000_000L);
         DUE.is("9 the highest MOMENT", most.of(0, 0, 1), 8_000_000_000_000_000L);
-        SectionFibres two = pair(30_000);
+        SectionFibres two = Sections.pair(30_000);
         two.fibre(3, 500, 1);
         two.point(1, -30_000, -60_000);
         two.point(1, 30_000, 60_000);
@@ -270,7 +247,7 @@ final class PromisesTest {
     }
 
     private static void promise10Balance() {
-        SectionFibres x = single();
+        SectionFibres x = Sections.single();
         long[][] due = {
             {-50, -5}, {-49, -4}, {-1, 0}, {0, 0}, {1, 1}, {10, 1}, {11, 2}, {200_000, 20_000}, {200_001, NONE_E},
             {-200_000, -20_000}, {-199_991, -19_999}, {-200_001, -20_000}, {Long.MIN_VALUE, -20_000}, {Long.MAX_VALUE, NONE_E},
@@ -296,7 +273,7 @@ final class PromisesTest {
     }
 
     private static void promise11Run() {
-        SectionFibres x = pair(30_000);
+        SectionFibres x = Sections.pair(30_000);
         solved(x, 0, 14_000, 0, 7);
         solved(x, 0, 13_999, 0, 7);
         solved(x, 0, 14_001, 0, 8);
@@ -315,7 +292,7 @@ final class PromisesTest {
         DUE.is("11 told(1) stays", x.told(1), -20_000);
         DUE.is("11 residual(0) stays", x.residual(0), 0);
         DUE.is("11 residual(1) stays", x.residual(1), Long.MIN_VALUE - 40_000_000);
-        SectionFibres none = pair(30_000);
+        SectionFibres none = Sections.pair(30_000);
         DUE.is("11 run(40001, 0)", none.run(40_001, 0), 1);
         DUE.is("11 no plane after 1", none.told(0), BAD);
         DUE.is("11 run(0, 40000001)", none.run(0, 40_000_001), 2);
@@ -330,7 +307,7 @@ final class PromisesTest {
     }
 
     private static void promise12Told() {
-        SectionFibres x = pair(100);
+        SectionFibres x = Sections.pair(100);
         DUE.is("12 run(0, 200000)", x.run(0, 200_000), 0);
         DUE.is("12 told(0)", x.told(0), 0);
         DUE.is("12 told(1)", x.told(1), 100);
@@ -356,7 +333,7 @@ final class PromisesTest {
     }
 
     private static void promise13Residual() {
-        SectionFibres x = pair(30_000);
+        SectionFibres x = Sections.pair(30_000);
         DUE.is("13 no plane, 0", x.residual(0), NONE);
         DUE.is("13 no plane, 1", x.residual(1), NONE);
         x.run(3, -13_999);
@@ -373,7 +350,7 @@ final class PromisesTest {
     }
 
     private static void promise14In() {
-        SectionFibres x = pair(30_000);
+        SectionFibres x = Sections.pair(30_000);
         DUE.throwsIndex("14 in(2, 0) without a plane", () -> x.in(2, 0));
         DUE.throwsIndex("14 in(-1, 9) without a plane", () -> x.in(-1, 9));
         DUE.is("14 in(0, 0) without a plane", x.in(0, 0), NONE_E);
@@ -399,7 +376,7 @@ final class PromisesTest {
     }
 
     private static void promise15Curve() {
-        SectionFibres x = pair(30_000);
+        SectionFibres x = Sections.pair(30_000);
         DUE.is("15 curve(0, 10, 3)", x.curve(0, 10, 3), 60_000);
         DUE.is("15 curve(0, 1, 0)", x.curve(0, 1, 0), 0);
         DUE.is("15 curve(0, 1, 20)", x.curve(0, 1, 20), 40_000);
@@ -417,7 +394,7 @@ final class PromisesTest {
     }
 
     private static void promise16Last() {
-        SectionFibres x = pair(100);
+        SectionFibres x = Sections.pair(100);
         DUE.is("16 last(0, 30)", x.last(0, 30), 4);
         DUE.is("16 last(0, 1000)", x.last(0, 1_000), 1);
         DUE.is("16 last(0, 5) ends at the row's end", x.last(0, 5), BAD);
@@ -429,9 +406,9 @@ final class PromisesTest {
         DUE.is("16 last(-200, 1001)", x.last(-200, 1_001), BAD);
         DUE.is("16 last(-200, MIN)", x.last(-200, MIN), BAD);
         DUE.is("16 last(-200, MAX)", x.last(-200, MAX), BAD);
-        DUE.is("16 with the last of all bends", pair(95).last(0, 5), 20);
-        DUE.is("16 last(30001, 1000)", pair(30_000).last(30_001, 1_000), 15);
-        DUE.is("16 no balance before one is beyond", pair(30_000).last(40_000, 1_000), BAD);
+        DUE.is("16 with the last of all bends", Sections.pair(95).last(0, 5), 20);
+        DUE.is("16 last(30001, 1000)", Sections.pair(30_000).last(30_001, 1_000), 15);
+        DUE.is("16 no balance before one is beyond", Sections.pair(30_000).last(40_000, 1_000), BAD);
         DUE.is("16 no plane came to hand", x.told(0), BAD);
     }
 
@@ -472,7 +449,7 @@ final class PromisesTest {
     }
 
     private static void neededChangesNothing() {
-        SectionFibres x = single();
+        SectionFibres x = Sections.single();
         for (int i = 1; i < 40; i++) {
             x.fibre(0, 0, 0);
         }
@@ -484,7 +461,7 @@ final class PromisesTest {
         DUE.is("17 the plane stays", x.told(0), 3);
         DUE.is("17 of stays", x.of(3, 5, 0), 30);
         DUE.throwsIndex("17 in(40, 0)", () -> x.in(40, 0));
-        SectionFibres few = single();
+        SectionFibres few = Sections.single();
         few.needed(1_000, 3, 7, 200_001, 0);
         DUE.is("17 the next fibre", few.fibre(2, 0, 0), 1);
         DUE.is("17 of with the next fibre", few.of(1, 0, 0), 12);
@@ -509,7 +486,7 @@ final class PromisesTest {
     }
 
     private static void whatRefusesKeepsThePlane() {
-        SectionFibres x = single();
+        SectionFibres x = Sections.single();
         x.run(30, 0);
         x.fibre(-1, 0, 0);
         DUE.is("2 a refused fibre keeps the plane", x.told(0), 3);
@@ -534,7 +511,7 @@ final class PromisesTest {
     }
 
     private static void whatIsToldTakesThePlane() {
-        SectionFibres x = single();
+        SectionFibres x = Sections.single();
         x.run(30, 0);
         DUE.is("2 fibre", x.fibre(0, 0, 0), 1);
         goneThenBack("2 fibre takes the plane", x);
